@@ -823,7 +823,7 @@ public final class NotesBelow {
             }
         }
 
-        /** Lays the NOTES of the MARGIN for all PAGES that begin with a LINE and end ahead of another one or of it. */
+        /** Lays the NOTES of the MARGIN for all PAGES that have begin as their first LINE and end at end or ahead of it. */
         private void layMargin(int begin, int end) {
             int free = 0;
             int moved = 0;
@@ -854,6 +854,7 @@ public final class NotesBelow {
      * For each state the least COST of its PAGE and all behind it is kept, and the state of the PAGE behind it.
      */
     private static final class Breaker {
+        // A GROWN NOTE has one row more than the most, and to carry none is a way too.
         private static final int CARRIES = MOST_NOTE_ROWS + 2;
         private static final int PLACED = MOST_FIGURES + 1;
         private static final int STATES = (MOST_LINES + 1) * CARRIES * PLACED;

@@ -502,6 +502,16 @@ public final class PromisesTest {
         due(19, "refer(0, NONE)", y.refer(0, NONE), 1);
         due(19, "settle(9)", y.settle(9), 0);
         due(19, "pages()", y.pages(), 10);
+        // GROWN, the first one draws the second to page 8, and so shrinks again, on and on.
+        NotesBelow z = made("height 6;gap 0;first 1;rest 1;split 4;widow 5;orphan 0;move 0;", 3, 3, 2, 4, 5, 4, 4, 4, 4, 5, 5, 5);
+        z.note(15, 0, 4);
+        z.note(44, 0, 4);
+        z.refer(0, 1);
+        for (int r = 1; r <= 9; r++) {
+            due(19, "settle(" + r + ")", z.settle(r), NONE);
+            due(19, "told(0, 4)", z.told(0, 4), r % 2);
+            due(19, "where(1, 1)", z.where(1, 1), 9 - r % 2);
+        }
     }
 
     private static void least() {
@@ -558,6 +568,14 @@ public final class PromisesTest {
         due(21, "cost()", y.cost(), 8);
         y.note(0, 1, 5);
         due(21, "tried(0, -1) of no BREAK", y.tried(0, -1), NONE);
+        // GROWN, the first NOTE fits on no PAGE.
+        NotesBelow z = made(PLAIN, 9, 9, 9, 9, 9, 5);
+        z.note(0, 1, 4);
+        z.note(49, 1, 1);
+        z.refer(0, 1);
+        due(21, "tried(5, 0)", z.tried(5, 0), 0);
+        z.settle(1);
+        due(21, "tried(5, 0) as GROWN", z.tried(5, 0), NONE);
     }
 
     private static NotesBelow far() {
