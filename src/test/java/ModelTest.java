@@ -194,6 +194,32 @@ public final class ModelTest {
         return !wrong;
     }
 
+    /** As many LINES, NOTES and FIGURES as there may be, on PAGES of any height: many of them cannot be broken. */
+    private boolean goFull() {
+        feedText("height " + any(10, 30) + ";gap " + any(0, 3) + ";first " + any(1, 3) + ";rest " + any(1, 3) + ";move " + any(0, 3)
+            + ";late " + any(0, 30) + ";split " + any(0, 30) + ";");
+        same("read()", built.read(), model.read());
+        for (int k = 0; k < 16; k++) {
+            int a = oneIn(6) ? 1 : 0, b = any(1, 5);
+            same("paragraph(" + a + ", " + b + ")", built.paragraph(a, b), model.paragraph(a, b));
+        }
+        for (int k = 0; k < 20; k++) {
+            int a = any(0, lines() - 1), b = any(0, 2), c = any(1, oneIn(6) ? 9 : 3);
+            same("note(" + a + ", " + b + ", " + c + ")", built.note(a, b, c), model.note(a, b, c));
+        }
+        int at = 0;
+        for (int k = 0; k < 4; k++) {
+            at = any(at, Math.min(lines() - 1, at + 12));
+            int b = any(1, oneIn(4) ? 20 : 6);
+            same("figure(" + at + ", " + b + ")", built.figure(at, b), model.figure(at, b));
+        }
+        lookAtAll();
+        int p = any(0, 15), d = any(-3, 3), n = any(2, 9);
+        same("tried(" + p + ", " + d + ")", built.tried(p, d), model.tried(p, d));
+        same("least(" + n + ")", built.least(n), model.least(n));
+        return !wrong;
+    }
+
     /** A text of many short PAGES with NOTES that refer to one another, where SETTLED takes rounds. */
     private boolean goFar() {
         feedText("height " + any(6, 8) + ";gap " + any(0, 1) + ";first 1;rest " + any(1, 2) + ";split " + any(0, 9)
@@ -225,6 +251,11 @@ public final class ModelTest {
         return !wrong;
     }
 
+    private boolean goByKind() {
+        if (run % 4 == 3) return goFar();
+        return run % 8 == 5 ? goFull() : go();
+    }
+
     public static void main(String[] args) {
         int from = args.length > 0 ? Integer.parseInt(args[0]) : 1;
         int to = args.length > 1 ? Integer.parseInt(args[1]) : 400;
@@ -232,7 +263,7 @@ public final class ModelTest {
         long compared = 0;
         for (int run = from; run <= to && failed < 3; run++) {
             ModelTest test = new ModelTest(run);
-            if (!(run % 4 == 3 ? test.goFar() : test.go())) failed++;
+            if (!test.goByKind()) failed++;
             compared += test.calls.size();
         }
         System.out.println(failed == 0 ? compared + " answers are those of the model" : failed + " runs differ from the model");

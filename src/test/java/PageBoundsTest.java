@@ -46,7 +46,7 @@ public final class PageBoundsTest {
         dueNoBreak("With the last PAGE all NOTES must stand", x);
         x.paragraph(0, 1);
         duePages(s, x, LINES, 1, 1);
-        // Alternate LINES fill a PAGE each: as many PAGES as can be made.
+        // Alternate LINES fill a PAGE each.
         NotesBelow many = Desk.made("height 6;gap 0;widow 0;orphan 0;", 9, 9, 9, 9, 9, 5);
         for (int n = 0; n < 20; n++) many.note(2 * n + 1, 1, 5);
         DESK.due(s, "pages()", many.pages(), 42);
@@ -57,6 +57,63 @@ public final class PageBoundsTest {
         DESK.due(s, "cost()", many.cost(), 20 * 25);
         DESK.due("n PAGES or fewer", "least(41)", many.least(41), 7);
         DESK.due("n PAGES or fewer", "least(42)", many.least(42), 6);
+    }
+
+    /** LINES 3k stand alone, LINES 3k + 1 fill a PAGE with two of a NOTE's four ROWS, the LINES behind them with the others. */
+    private static NotesBelow aPageForEachLine() {
+        NotesBelow x = Desk.made(rules(6, 3, 2, 2, "widow 0;orphan 0;split 7;late 0;move 0;"), linesOf(50));
+        for (int n = 0; n < 16; n++) x.note(3 * n + 1, 0, 4);
+        x.note(48, 0, 4);
+        return x;
+    }
+
+    private static void fiftyPages() {
+        String s = "LINES (50 at most), on a PAGE one at least";
+        NotesBelow x = aPageForEachLine();
+        DESK.due(s, "pages()", x.pages(), 50);
+        DESK.due(s, "cost()", x.cost(), 16 * 25 + 17 * 7);
+        for (int p = 0; p < 50; p++) {
+            boolean alone = p % 3 == 0 && p < 48, calls = p == 48 || p % 3 == 1 && p < 48, carries = !alone && !calls;
+            int[] want = {p, 1, 0, alone ? 0 : 2, 0, alone ? 5 : 0, alone ? 25 : calls ? 7 : 0, carries ? 2 : 0, calls ? 2 : 0};
+            for (int what = 0; what < want.length; what++) DESK.due(s, "page(" + p + ", " + what + ")", x.page(p, what), want[what]);
+        }
+        NotesBelow y = aPageForEachLine();
+        DESK.due(s, "page(49, 9)", y.page(49, MOVED), 0);
+        DESK.due(s, "page(50, 0)", y.page(50, FIRST_LINE), Desk.UNKNOWN);
+        for (int l = 0; l < 50; l++) DESK.due(s, "where(" + l + ", 0)", y.where(l, 0), l);
+        DESK.due(s, "where(16, 1)", y.where(16, 1), 48);
+        DESK.due(s, "where(16, 2)", y.where(16, 2), 49);
+        DESK.due("n PAGES or fewer (1 .. 50)", "least(50)", y.least(50), 6);
+        // A row more lets two LINES stand with two ROWS, and nothing is LEFT then.
+        DESK.due("n PAGES or fewer (1 .. 50)", "least(49)", y.least(49), 7);
+        y.figure(49, 1);
+        dueNoBreak("With the last PAGE all FIGURES must stand", y);
+    }
+
+    /** All NOTES that there may be in one LINE and BAND: they fit a height to the row, and one row less is no BREAK. */
+    private static void twentyNotesInALine() {
+        String s = "NOTES (20 at most), of one BAND";
+        for (int band = 0; band <= 2; band++) {
+            int enough = band == 2 ? 20 : 21;
+            for (int height = enough - 1; height <= enough; height++) {
+                NotesBelow x = Desk.made(rules(height, 0, 1, 1, "move 3;"), 1);
+                for (int n = 0; n < 20; n++) x.note(0, band, 1);
+                if (height < enough) {
+                    dueNoBreak(s, x);
+                    continue;
+                }
+                duePages(s, x, LEFT, band == 2 ? 19 : 0);
+                duePages(s, x, ROWS_0, band == 0 ? 20 : 0);
+                duePages(s, x, ROWS_1, band == 1 ? 20 : 0);
+                duePages(s, x, MOVED, band == 2 ? 190 : 0);
+                DESK.due(s, "cost()", x.cost(), band == 2 ? 3 * 190 : 0);
+                for (int n = 0; n < 20; n++) {
+                    DESK.due(s, "where(" + n + ", 4)", x.where(n, 4), band == 2 ? n : NONE);
+                    DESK.due(s, "mark(" + n + ", true)", x.mark(n, true), n + 1);
+                }
+                DESK.due(s, "least(1)", x.least(1), enough);
+            }
+        }
     }
 
     private static void notAboveHeight() {
@@ -503,6 +560,8 @@ public final class PageBoundsTest {
 
     public static void main(String[] args) {
         oneLineAtLeast();
+        fiftyPages();
+        twentyNotesInALine();
         notAboveHeight();
         gapOfEachBand();
         lateOnTheNextPage();
